@@ -14,6 +14,7 @@ final class CausesTest {
         rootsOverWithdrawn();
         longChain();
         mainReasons();
+        leastWeight();
         noSuchCause();
         Check.end("CausesTest");
     }
@@ -169,6 +170,14 @@ final class CausesTest {
         book.argueReason(0, 4, 8);
         Check.due("22: the greater one", book.mainReason(0), 4);
         Check.due("22: without a reason", book.mainReason(1), OutageBook.NONE);
+    }
+
+    private static void leastWeight() {
+        OutageBook book = withCauses(2);
+        book.argueReason(1, 0, 1);
+        Check.due("22: the least weight, the lowest number", book.mainReason(1), 0);
+        book.argueReason(1, 0, 0);
+        Check.due("22: taken back", book.mainReason(1), OutageBook.NONE);
     }
 
     private static void noSuchCause() {
