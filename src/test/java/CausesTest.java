@@ -19,14 +19,6 @@ final class CausesTest {
         Check.end("CausesTest");
     }
 
-    private static OutageBook withCauses(int count) {
-        OutageBook book = new OutageBook();
-        for (int cause = 0; cause < count; cause++) {
-            book.addCause();
-        }
-        return book;
-    }
-
     private static void sixteenCauses() {
         OutageBook book = new OutageBook();
         for (int cause = 0; cause < 16; cause++) {
@@ -38,7 +30,7 @@ final class CausesTest {
     }
 
     private static void weightsReplaced() {
-        OutageBook book = withCauses(3);
+        OutageBook book = Books.withCauses(3);
         Check.due("19: none before", book.argueReason(2, 0, 100), 0);
         Check.due("19: in place of it", book.argueReason(2, 0, 1), 100);
         Check.due("19: another pair", book.argueReason(2, 1, 50), 0);
@@ -51,7 +43,7 @@ final class CausesTest {
     }
 
     private static void reasonArguments() {
-        OutageBook book = withCauses(2);
+        OutageBook book = Books.withCauses(2);
         book.argueReason(0, 1, 5);
         for (int weight : new int[] {-1, 101, Integer.MIN_VALUE, Integer.MAX_VALUE}) {
             Told.unchanged(book, "19: weight", Check.ARGUMENT, () -> book.argueReason(0, 1, weight));
@@ -66,7 +58,7 @@ final class CausesTest {
     }
 
     private static void circles() {
-        OutageBook book = withCauses(4);
+        OutageBook book = Books.withCauses(4);
         book.argueReason(0, 1, 1);
         book.argueReason(1, 2, 1);
         Told.unchanged(book, "19: a circle of two", Check.STATE, () -> book.argueReason(1, 0, 1));
@@ -81,7 +73,7 @@ final class CausesTest {
     }
 
     private static void circlesOverWithdrawn() {
-        OutageBook book = withCauses(3);
+        OutageBook book = Books.withCauses(3);
         book.argueReason(0, 1, 1);
         book.argueReason(1, 2, 1);
         book.setStanding(1, false);
@@ -93,7 +85,7 @@ final class CausesTest {
     }
 
     private static void standing() {
-        OutageBook book = withCauses(2);
+        OutageBook book = Books.withCauses(2);
         Check.due("20: it stood", book.setStanding(1, true), true);
         Check.due("20: it stood", book.setStanding(1, false), true);
         Check.due("20: it did not", book.setStanding(1, false), false);
@@ -104,7 +96,7 @@ final class CausesTest {
     }
 
     private static void rootsTold() {
-        OutageBook book = withCauses(6);
+        OutageBook book = Books.withCauses(6);
         book.argueReason(0, 1, 1);
         book.argueReason(0, 2, 1);
         book.argueReason(1, 3, 1);
@@ -128,7 +120,7 @@ final class CausesTest {
     }
 
     private static void rootsOverWithdrawn() {
-        OutageBook book = withCauses(3);
+        OutageBook book = Books.withCauses(3);
         book.argueReason(0, 1, 1);
         book.argueReason(1, 2, 1);
         book.setStanding(1, false);
@@ -137,8 +129,8 @@ final class CausesTest {
     }
 
     private static void longChain() {
-        OutageBook up = withCauses(16);
-        OutageBook down = withCauses(16);
+        OutageBook up = Books.withCauses(16);
+        OutageBook down = Books.withCauses(16);
         for (int cause = 0; cause < 15; cause++) {
             up.argueReason(cause, cause + 1, 1);
             down.argueReason(cause + 1, cause, 1);
@@ -150,7 +142,7 @@ final class CausesTest {
     }
 
     private static void mainReasons() {
-        OutageBook book = withCauses(5);
+        OutageBook book = Books.withCauses(5);
         Check.due("22: none", book.mainReason(0), OutageBook.NONE);
         book.argueReason(0, 4, 7);
         book.argueReason(0, 3, 7);
@@ -173,7 +165,7 @@ final class CausesTest {
     }
 
     private static void leastWeight() {
-        OutageBook book = withCauses(2);
+        OutageBook book = Books.withCauses(2);
         book.argueReason(1, 0, 1);
         Check.due("22: the least weight, the lowest number", book.mainReason(1), 0);
         book.argueReason(1, 0, 0);
@@ -181,7 +173,7 @@ final class CausesTest {
     }
 
     private static void noSuchCause() {
-        OutageBook book = withCauses(2);
+        OutageBook book = Books.withCauses(2);
         for (int cause : new int[] {-1, 2, 15, 16, 32, Integer.MIN_VALUE, Integer.MAX_VALUE}) {
             Told.unchanged(book, "19: no cause", Check.INDEX, () -> book.argueReason(cause, 0, 1));
             Told.unchanged(book, "19: no reason", Check.INDEX, () -> book.argueReason(0, cause, 1));

@@ -6,6 +6,7 @@ final class Check {
 
     private static int compared = 0;
     private static int wrong = 0;
+    private static String about = "";
 
     private Check() {
     }
@@ -23,18 +24,27 @@ final class Check {
         }
     }
 
+    /** Tells with each wrong answer what the test was about. */
+    static void about(String subject) {
+        about = subject + " | ";
+    }
+
     static void due(String what, Object got, Object want) {
         compared++;
         if (!String.valueOf(got).equals(String.valueOf(want))) {
             wrong++;
             if (wrong <= 20) {
-                System.out.println(what + " answered " + got + ", due is " + want);
+                System.out.println(about + what + " answered " + got + ", due is " + want);
             }
         }
     }
 
     static void dueThrow(String what, String exception, Call call) {
         due(what, answer(call), "throws." + exception);
+    }
+
+    static int compared() {
+        return compared;
     }
 
     static boolean isWrong() {

@@ -98,17 +98,17 @@ final class ClocksTest {
     private static void refusedMarks() {
         OutageBook book = new OutageBook();
         book.mark(0, 100, 1, 100, 5);
-        Told.unchanged(book, "2: mark just too early", Check.STATE, () -> mark(book, 0, 100, 1, 89, 5));
-        Told.unchanged(book, "2: mark just too late", Check.STATE, () -> mark(book, 0, 100, 1, 111, 5));
-        Told.unchanged(book, "2: the same from the other", Check.STATE, () -> mark(book, 1, 89, 0, 100, 5));
+        Told.unchanged(book, "2: mark just too early", Check.STATE, () -> Books.mark(book, 0, 100, 1, 89, 5));
+        Told.unchanged(book, "2: mark just too late", Check.STATE, () -> Books.mark(book, 0, 100, 1, 111, 5));
+        Told.unchanged(book, "2: the same from the other", Check.STATE, () -> Books.mark(book, 1, 89, 0, 100, 5));
         book.mark(1, 90, 0, 100, 5);
         Check.due("2: a mark that leaves one value", book.greatest(0, 1), -5);
         Check.due("2: a mark that leaves one value", book.greatest(1, 0), 5);
         book.mark(1, 0, 2, 50, 0);
         book.mark(2, 0, 3, 50, 1);
-        Told.unchanged(book, "2: mark that a chain refuses", Check.STATE, () -> mark(book, 0, 0, 3, 93, 0));
-        Told.unchanged(book, "2: mark that a chain refuses", Check.STATE, () -> mark(book, 3, 97, 0, 0, 0));
-        Check.due("2: mark at the chain's end", Check.answer(() -> mark(book, 0, 0, 3, 94, 0)), "done");
+        Told.unchanged(book, "2: mark that a chain refuses", Check.STATE, () -> Books.mark(book, 0, 0, 3, 93, 0));
+        Told.unchanged(book, "2: mark that a chain refuses", Check.STATE, () -> Books.mark(book, 3, 97, 0, 0, 0));
+        Check.due("2: mark at the chain's end", Check.answer(() -> Books.mark(book, 0, 0, 3, 94, 0)), "done");
         Check.due("2: then", book.greatest(2, 3), 49);
     }
 
@@ -122,7 +122,7 @@ final class ClocksTest {
         book.mark(1, 10000, 0, 0, 1000);
         Check.due("3: over all clocks", book.greatest(0, 4), 44000);
         Check.due("3: over all clocks", book.greatest(4, 0), -36000);
-        Told.unchanged(book, "2: mark far off", Check.STATE, () -> mark(book, 0, 0, 1, 0, 1000));
+        Told.unchanged(book, "2: mark far off", Check.STATE, () -> Books.mark(book, 0, 0, 1, 0, 1000));
     }
 
     private static void markArguments() {
@@ -138,7 +138,7 @@ final class ClocksTest {
         };
         for (int[] w : wrong) {
             Told.unchanged(book, "2: mark " + java.util.Arrays.toString(w), Check.ARGUMENT,
-                    () -> mark(book, w[0], w[1], w[2], w[3], w[4]));
+                    () -> Books.mark(book, w[0], w[1], w[2], w[3], w[4]));
         }
     }
 
@@ -151,11 +151,5 @@ final class ClocksTest {
             Told.unchanged(book, "3: greatest " + clock, Check.ARGUMENT, () -> book.greatest(clock, clock));
         }
         Check.due("3: greatest(4, 4)", book.greatest(4, 4), 0);
-    }
-
-    private static Object mark(OutageBook book, int first, int firstReading, int second,
-            int secondReading, int slack) {
-        book.mark(first, firstReading, second, secondReading, slack);
-        return "done";
     }
 }

@@ -24,30 +24,6 @@ final class LinesTest {
         Check.end("LinesTest");
     }
 
-    private static String order(OutageBook book) {
-        StringBuilder order = new StringBuilder();
-        for (int place = 0; place < book.lines(); place++) {
-            order.append(book.lineAt(place)).append(' ');
-        }
-        return order.toString().trim();
-    }
-
-    private static String storyOf(OutageBook book) {
-        StringBuilder story = new StringBuilder();
-        for (int place = 0; place < book.story(); place++) {
-            story.append(book.storyAt(place)).append(' ');
-        }
-        return story.toString().trim();
-    }
-
-    private static OutageBook withReadings(int clock, int... readings) {
-        OutageBook book = new OutageBook();
-        for (int reading : readings) {
-            book.write(clock, reading, 0, true);
-        }
-        return book;
-    }
-
     private static void writeAndLines() {
         OutageBook book = new OutageBook();
         Check.due("4: the first line", book.write(4, 10000, 5, false), 0);
@@ -57,7 +33,7 @@ final class LinesTest {
     }
 
     private static void writeArguments() {
-        OutageBook book = withReadings(0, 5);
+        OutageBook book = Books.withReadings(0, 5);
         int[][] wrong = {
             {-1, 0, 0}, {5, 0, 0}, {0, -1, 0}, {0, 10001, 0}, {0, 0, -1}, {0, 0, 6},
             {Integer.MIN_VALUE, 0, 0}, {0, Integer.MAX_VALUE, 0}, {0, 0, Integer.MIN_VALUE},
@@ -87,7 +63,7 @@ final class LinesTest {
     }
 
     private static void beforeOnOneClock() {
-        OutageBook book = withReadings(3, 10, 11, 10);
+        OutageBook book = Books.withReadings(3, 10, 11, 10);
         Check.due("6: earlier", book.mustComeBefore(0, 1), true);
         Check.due("6: later", book.mustComeBefore(1, 0), false);
         Check.due("6: at once", book.mustComeBefore(0, 2), false);
@@ -118,7 +94,7 @@ final class LinesTest {
     }
 
     private static void beforeArguments() {
-        OutageBook book = withReadings(0, 1, 2);
+        OutageBook book = Books.withReadings(0, 1, 2);
         int[] wrong = {-1, 2, 29, 30, 31, 32, Integer.MIN_VALUE, Integer.MAX_VALUE};
         for (int line : wrong) {
             Told.unchanged(book, "6: no line", Check.INDEX, () -> book.mustComeBefore(line, 0));
@@ -128,7 +104,7 @@ final class LinesTest {
     }
 
     private static void orderThatIsTold() {
-        Check.due("7: on one clock", order(withReadings(2, 30, 10, 20, 10, 30)), "1 3 2 0 4");
+        Check.due("7: on one clock", Books.order(Books.withReadings(2, 30, 10, 20, 10, 30)), "1 3 2 0 4");
         OutageBook book = new OutageBook();
         book.write(0, 50, 0, true);
         book.write(1, 20, 0, true);
@@ -136,7 +112,7 @@ final class LinesTest {
         book.write(1, 10, 0, true);
         book.write(2, 0, 0, true);
         // Not the earliest line is taken next, but the lowest number that nothing holds back.
-        Check.due("7: on clocks not bound", order(book), "2 0 3 1 4");
+        Check.due("7: on clocks not bound", Books.order(book), "2 0 3 1 4");
     }
 
     private static void orderAfterMarks() {
@@ -144,13 +120,13 @@ final class LinesTest {
         book.write(0, 100, 0, true);
         book.write(1, 100, 0, true);
         book.write(2, 100, 0, true);
-        Check.due("7: without marks", order(book), "0 1 2");
+        Check.due("7: without marks", Books.order(book), "0 1 2");
         book.mark(1, 50, 2, 70, 10);
-        Check.due("7: what the clock 2 read is earlier than by the clock 1", order(book), "0 2 1");
+        Check.due("7: what the clock 2 read is earlier than by the clock 1", Books.order(book), "0 2 1");
         book.mark(0, 0, 2, 10, 5);
-        Check.due("7: and than by the clock 0", order(book), "2 0 1");
+        Check.due("7: and than by the clock 0", Books.order(book), "2 0 1");
         book.write(2, 100, 0, false);
-        Check.due("7: one more", order(book), "2 3 0 1");
+        Check.due("7: one more", Books.order(book), "2 3 0 1");
         Told.unchanged(book, "7: a mark that is refused", Check.STATE, () -> {
             book.mark(0, 10000, 1, 0, 0);
             return "";
@@ -159,7 +135,7 @@ final class LinesTest {
 
     private static void placeArguments() {
         Told.unchanged(new OutageBook(), "7: no lines", Check.INDEX, () -> new OutageBook().lineAt(0));
-        OutageBook book = withReadings(0, 1, 2);
+        OutageBook book = Books.withReadings(0, 1, 2);
         for (int place : new int[] {-1, 2, 30, Integer.MIN_VALUE, Integer.MAX_VALUE}) {
             Told.unchanged(book, "7: lineAt " + place, Check.INDEX, () -> book.lineAt(place));
         }
@@ -167,14 +143,14 @@ final class LinesTest {
 
     private static void ordersCounted() {
         Check.due("8: no lines", new OutageBook().orders(), 1);
-        Check.due("8: one line", withReadings(0, 7).orders(), 1);
-        Check.due("8: one after the other", withReadings(0, 4, 3, 2, 1).orders(), 1);
-        Check.due("8: all at once", withReadings(0, 1, 1, 1, 1).orders(), 24);
-        Check.due("8: two and two", withReadings(0, 1, 2, 2, 1).orders(), 4);
-        OutageBook twelve = withReadings(0, new int[12]);
+        Check.due("8: one line", Books.withReadings(0, 7).orders(), 1);
+        Check.due("8: one after the other", Books.withReadings(0, 4, 3, 2, 1).orders(), 1);
+        Check.due("8: all at once", Books.withReadings(0, 1, 1, 1, 1).orders(), 24);
+        Check.due("8: two and two", Books.withReadings(0, 1, 2, 2, 1).orders(), 4);
+        OutageBook twelve = Books.withReadings(0, new int[12]);
         Check.due("8: twelve at once", twelve.orders(), 479001600L);
         Check.due("8: twelve at once, asked again", twelve.orders(), 479001600L);
-        OutageBook book = withReadings(0, 1, 2, 3, 4, 5, 6);
+        OutageBook book = Books.withReadings(0, 1, 2, 3, 4, 5, 6);
         for (int reading = 1; reading <= 6; reading++) {
             book.write(1, reading, 0, true);
         }
@@ -186,13 +162,13 @@ final class LinesTest {
     }
 
     private static void ordersRefused() {
-        OutageBook book = withReadings(0, new int[12]);
+        OutageBook book = Books.withReadings(0, new int[12]);
         book.write(0, 1, 0, true);
         Told.unchanged(book, "8: thirteen lines", Check.STATE, book::orders);
     }
 
     private static void argued() {
-        OutageBook book = withReadings(0, 2, 1);
+        OutageBook book = Books.withReadings(0, 2, 1);
         Check.due("10: at first", book.isDoubtful(0), false);
         Check.due("9: for", book.argue(0, 100, true), 100);
         Check.due("9: against", book.argue(0, 99, false), 1);
@@ -204,12 +180,12 @@ final class LinesTest {
         Check.due("10: the other line", book.isDoubtful(1), false);
         Check.due("9: the other line", book.argue(1, 100, false), -100);
         Check.due("9: the other line", book.argue(1, 100, false), -200);
-        Check.due("7: doubtful ones stay", order(book), "1 0");
+        Check.due("7: doubtful ones stay", Books.order(book), "1 0");
         Check.due("10: a new line", book.isDoubtful(book.write(0, 0, 0, true)), false);
     }
 
     private static void argueArguments() {
-        OutageBook book = withReadings(0, 1);
+        OutageBook book = Books.withReadings(0, 1);
         for (int line : new int[] {-1, 1, 30, Integer.MIN_VALUE, Integer.MAX_VALUE}) {
             Told.unchanged(book, "9: no line", Check.INDEX, () -> book.argue(line, 1, true));
             Told.unchanged(book, "9: no line, no weight", Check.INDEX, () -> book.argue(line, 0, true));
@@ -229,13 +205,13 @@ final class LinesTest {
         book.write(0, 20, 0, true);
         book.write(0, 10, 0, true);
         Check.due("11: story", book.story(), 3);
-        Check.due("12: story", storyOf(book), "3 2 0");
+        Check.due("12: story", Books.storyOf(book), "3 2 0");
         book.argue(2, 1, false);
         Check.due("11: without a doubtful line", book.story(), 2);
-        Check.due("12: without a doubtful line", storyOf(book), "3 0");
+        Check.due("12: without a doubtful line", Books.storyOf(book), "3 0");
         book.argue(2, 1, true);
         book.argue(1, 100, true);
-        Check.due("12: no longer doubtful", storyOf(book), "3 2 0");
+        Check.due("12: no longer doubtful", Books.storyOf(book), "3 2 0");
         book.argue(3, 1, false);
         book.argue(0, 1, false);
         book.argue(2, 1, false);
@@ -245,7 +221,7 @@ final class LinesTest {
 
     private static void storyArguments() {
         Told.unchanged(new OutageBook(), "12: no lines", Check.INDEX, () -> new OutageBook().storyAt(0));
-        OutageBook book = withReadings(0, 1, 2, 3);
+        OutageBook book = Books.withReadings(0, 1, 2, 3);
         book.argue(1, 5, false);
         for (int place : new int[] {-1, 2, 3, 30, Integer.MIN_VALUE, Integer.MAX_VALUE}) {
             Told.unchanged(book, "12: storyAt " + place, Check.INDEX, () -> book.storyAt(place));

@@ -1,4 +1,7 @@
-/** All that a book tells without being changed, as one text: to see that a call changed nothing. */
+/**
+ * All that a book tells, as one text: to see that a call changed nothing. It asks more than 512 times
+ * of one object, where the document leaves the answers free; the program counts no calls.
+ */
 final class Told {
     private Told() {
     }
@@ -50,6 +53,28 @@ final class Told {
             told.append(Check.answer(() -> book.roots(one))).append(' ');
             told.append(Check.answer(() -> book.mainReason(one))).append(' ');
         }
+    }
+
+    /** By questions, and then by calls that change the book: weights, and the room that is left. */
+    static String andSpent(OutageBook book) {
+        StringBuilder told = new StringBuilder(by(book));
+        for (int line = 0; line < book.lines(); line++) {
+            told.append(book.argue(line, 1, true)).append(' ');
+        }
+        for (int cause = 0; cause < 16; cause++) {
+            int one = cause;
+            told.append("| cause ").append(Check.answer(() -> book.setStanding(one, true))).append(' ');
+            for (int reason = 0; reason < 16; reason++) {
+                int other = reason;
+                told.append(Check.answer(() -> book.argueReason(one, other, 0))).append(' ');
+            }
+        }
+        for (int more = 0; more < 41; more++) {
+            told.append("| room ").append(Check.answer(book::addCause)).append(' ');
+            told.append(Check.answer(() -> book.write(0, 0, 0, true))).append(' ');
+            told.append(Check.answer(() -> book.measure(0, 0, 0, 0))).append(' ');
+        }
+        return told.toString();
     }
 
     /** A call that must throw, and leave all that the book tells as it was. */
