@@ -22,6 +22,7 @@ final class ClockEdges {
         boundOverOthers();
         refusedMarks();
         refusedOverOthers();
+        refusedFarOff();
         refusedMarkLeavesTheRest();
         clockAndItself();
         greatestAndLeastBounds();
@@ -286,6 +287,24 @@ final class ClockEdges {
         other.mark(2, 0, 3, 30, 3);
         Check.due("a mark of " + second + first + " that is " + apart + " apart",
                 Check.answer(() -> Books.mark(other, second, apart, first, 0, slack)), want);
+    }
+
+    /** Clocks that are so far apart that no reading and no slack could tell it. */
+    private static void refusedFarOff() {
+        Document.about("2", STATE_OF_MARK);
+        OutageBook book = new OutageBook();
+        for (int clock = 0; clock < 4; clock++) {
+            book.mark(clock, 0, clock + 1, 10000, 1000);
+        }
+        for (int[] pair : PAIRS) {
+            String want = pair[1] - pair[0] == 1 ? "done" : "throws." + Check.STATE;
+            String later = Check.answer(() -> Books.mark(book, pair[0], 0, pair[1], 10000, 1000));
+            String earlier = Check.answer(() -> Books.mark(book, pair[1], 0, pair[0], 10000, 1000));
+            Check.due(pair[0] + " far behind " + pair[1], later, want);
+            Check.due(pair[0] + " far ahead of " + pair[1], earlier, "throws." + Check.STATE);
+        }
+        Check.due("greatest(0, 4)", book.greatest(0, 4), 44000);
+        Check.due("greatest(4, 0)", book.greatest(4, 0), -36000);
     }
 
     private static void refusedMarkLeavesTheRest() {
