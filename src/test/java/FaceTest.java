@@ -1,9 +1,16 @@
+import java.io.IOException;
 import java.lang.reflect.Constructor;
 import java.lang.reflect.Field;
 import java.lang.reflect.Method;
 import java.lang.reflect.Modifier;
+import java.nio.file.Files;
+import java.nio.file.Path;
+import java.util.ArrayList;
 import java.util.Arrays;
+import java.util.List;
 import java.util.TreeSet;
+import java.util.regex.Matcher;
+import java.util.regex.Pattern;
 import java.util.stream.Collectors;
 
 /** The public face: what the document names can be seen from outside, and nothing else. */
@@ -36,7 +43,7 @@ final class FaceTest {
     private FaceTest() {
     }
 
-    public static void main(String[] args) {
+    public static void main(String[] args) throws IOException {
         Check.due("the class", Modifier.toString(OutageBook.class.getModifiers()), "public final");
         Check.due("NONE", OutageBook.NONE, -1);
         Check.due("UNBOUNDED", OutageBook.UNBOUNDED, 1000000);
@@ -44,7 +51,46 @@ final class FaceTest {
         fields();
         constructors();
         classesInside();
+        asTheDocumentHasIt();
         Check.end("FaceTest");
+    }
+
+    /** The program has each line of the document's face, word for word and in its order. */
+    private static void asTheDocumentHasIt() throws IOException {
+        List<String> document = Files.readAllLines(Path.of("../shared/DOC.md"));
+        String program = Files.readString(Path.of("src/main/java/OutageBook.java")).replaceAll("\\s+", " ");
+        List<String> face = new ArrayList<>();
+        List<String> parts = new ArrayList<>();
+        for (String line : document) {
+            String told = line.strip();
+            if (told.startsWith("public ")) {
+                face.add(told.contains("(") ? told.replaceFirst(";$", " {") : told);
+            } else if (told.startsWith("Ahead of the calls ")) {
+                addPart(parts, told);
+            }
+        }
+        Check.due("lines of the face", face.size(), METHODS.length + 4);
+        Check.due("parts and their calls", parts.size(), METHODS.length + 4);
+        dueInOrder(program, face);
+        dueInOrder(program, parts);
+    }
+
+    /** The comment that stands ahead of calls, and the calls behind it. */
+    private static void addPart(List<String> parts, String told) {
+        parts.add("// " + told.replaceFirst(".* the interface says: (---- \\w+)\\.$", "$1") + " public ");
+        Matcher call = Pattern.compile("`(\\w+)`").matcher(told);
+        while (call.find()) {
+            parts.add(" " + call.group(1) + "(");
+        }
+    }
+
+    private static void dueInOrder(String program, List<String> texts) {
+        int at = -1;
+        for (String text : texts) {
+            int next = program.indexOf(text, at + 1);
+            Check.due("the program has in its place: " + text, next >= 0, true);
+            at = Math.max(at, next);
+        }
     }
 
     private static String names(Class<?>[] classes) {
